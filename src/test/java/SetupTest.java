@@ -1,5 +1,3 @@
-import java.nio.charset.StandardCharsets;
-
 /** Promises 1 to 6: a new object, append, load with its errors, errorOffset, roleCount, ruleCount. */
 public final class SetupTest {
     private static final Check check = new Check();
@@ -37,7 +35,7 @@ public final class SetupTest {
 
     private static void appendCounts() {
         ColorScheme x = new ColorScheme();
-        Check.fill(x, "scheme;role 1 2 3;  ".getBytes(StandardCharsets.ISO_8859_1));
+        Check.fill(x, "scheme;role 1 2 3;  ");
         for (int length = 40; length <= 700; length += 20) {
             check.same("append", length, x.append(538976288, 538976288, 538976288, 538976288, 538976288));
         }
@@ -67,7 +65,7 @@ public final class SetupTest {
         ColorScheme x = new ColorScheme();
         check.refuses("load(-1)", IllegalArgumentException.class, () -> x.load(-1));
         check.refuses("load(1) of nothing", IllegalArgumentException.class, () -> x.load(1));
-        Check.fill(x, "scheme;".getBytes(StandardCharsets.ISO_8859_1));
+        Check.fill(x, "scheme;");
         check.refuses("load(21) of 20", IllegalArgumentException.class, () -> x.load(21));
         check.refuses("load(most)", IllegalArgumentException.class, () -> x.load(Integer.MAX_VALUE));
         check.refuses("load(least)", IllegalArgumentException.class, () -> x.load(Integer.MIN_VALUE));
@@ -84,20 +82,20 @@ public final class SetupTest {
         check.refuses("after an error", IllegalArgumentException.class, () -> x.load(1));
         check.same("load(0)", -2, x.load(0));
         check.same("offset of load(0)", 0, x.errorOffset());
-        Check.fill(x, "scheme;".getBytes(StandardCharsets.ISO_8859_1));
+        Check.fill(x, "scheme;");
         check.same("load(0) with a buffer", -2, x.load(0));
         check.refuses("after load(0)", IllegalArgumentException.class, () -> x.load(1));
     }
 
     private static void loadReadsTheLengthAlone() {
         ColorScheme x = new ColorScheme();
-        Check.fill(x, "scheme;role 0 0 2567".getBytes(StandardCharsets.ISO_8859_1));
+        Check.fill(x, "scheme;role 0 0 2567");
         check.same("a number is cut off", -2, x.load(18));
         check.same("its offset", 18, x.errorOffset());
-        Check.fill(x, "scheme;roles".getBytes(StandardCharsets.ISO_8859_1));
+        Check.fill(x, "scheme;roles");
         check.same("a word is cut off", -2, x.load(11));
         check.same("its offset", 11, x.errorOffset());
-        Check.fill(x, "scheme;#".getBytes(StandardCharsets.ISO_8859_1));
+        Check.fill(x, "scheme;#");
         check.same("what comes after does not matter", 0, x.load(7));
         check.same("no offset", -1, x.errorOffset());
     }
@@ -149,25 +147,19 @@ public final class SetupTest {
         check.same("ruleCount then", 1, x.ruleCount());
     }
 
-    private static void good(String text, int rules) {
-        ColorScheme x = new ColorScheme();
-        check.same(text, rules, Check.load(x, text));
-        check.same("error offset of " + text, -1, x.errorOffset());
-    }
-
     private static void goodTexts() {
-        good("scheme;", 0);
-        good("   scheme   ;   ", 0);
-        good("scheme;role0 0 0;", 0);
-        good("scheme;role0 0 0dark1 2 3fixed;role 0 0 0 fixed;role 0 0 0 dark 1 1 1;", 0);
-        good("scheme;role 255 255 255 dark 255 255 255;", 0);
-        good("scheme;role 000000000000000000000255 00 0;", 0);
-        good(TWO + "text0 1 9;distinct1 0 4 2295;text 0 1 1;distinct 0 1 0 1;", 4);
-        good(TWO + "text 0 1 0000000000000000000000009;", 1);
-        good(TWO + "floor size;", 0);
-        good(TWO + "floor ((((size))))*(scheme)+(1)-9999/((0));", 0);
-        good("scheme;floor size+1*scheme;", 0);
-        good("scheme;floor 1;role 0 0 0;role 0 0 0;text 1 0 1;", 1);
+        check.accepts("scheme;", 0);
+        check.accepts("   scheme   ;   ", 0);
+        check.accepts("scheme;role0 0 0;", 0);
+        check.accepts("scheme;role0 0 0dark1 2 3fixed;role 0 0 0 fixed;role 0 0 0 dark 1 1 1;", 0);
+        check.accepts("scheme;role 255 255 255 dark 255 255 255;", 0);
+        check.accepts("scheme;role 000000000000000000000255 00 0;", 0);
+        check.accepts(TWO + "text0 1 9;distinct1 0 4 2295;text 0 1 1;distinct 0 1 0 1;", 4);
+        check.accepts(TWO + "text 0 1 0000000000000000000000009;", 1);
+        check.accepts(TWO + "floor size;", 0);
+        check.accepts(TWO + "floor ((((size))))*(scheme)+(1)-9999/((0));", 0);
+        check.accepts("scheme;floor size+1*scheme;", 0);
+        check.accepts("scheme;floor 1;role 0 0 0;role 0 0 0;text 1 0 1;", 1);
         ColorScheme x = Check.loaded("scheme;role 10 20 30;role 1 2 3 dark 4 5 6 fixed;role 0 255 128fixed;");
         check.same("light", 660510, x.colour(0, 0));
         check.same("dark without dark", 16777215 - 660510, x.colour(0, 1));
@@ -177,16 +169,6 @@ public final class SetupTest {
         check.same("fixed 1", true, x.isFixed(1));
         check.same("fixed 2", true, x.isFixed(2));
         check.same("dark 2", 65536 * 255 + 127, x.colour(2, 1));
-    }
-
-    /** The sign ^ stands where the error is due. */
-    private static void bad(int code, String marked) {
-        String text = marked.replace("^", "");
-        ColorScheme x = new ColorScheme();
-        check.same(marked, code, Check.load(x, text));
-        check.same("error offset of " + marked, marked.indexOf('^'), x.errorOffset());
-        check.same("roles after " + marked, 0, x.roleCount());
-        check.same("changes after " + marked, -1, x.undo());
     }
 
     private static void syntaxErrors() {
@@ -211,7 +193,7 @@ public final class SetupTest {
             TWO + "^next 0 1 1;", TWO + "^mistinct 0 1 0 5;", "scheme;^xloor 1;", "scheme;floor ^xize;", "scheme;floor ^xcheme;",
             "scheme;floor ((((1)))^;", "scheme;floor 1^.5;", "scheme;floor ^floor 1;"
         }) {
-            bad(-2, marked);
+            check.rejects(-2, marked);
         }
     }
 
@@ -229,37 +211,37 @@ public final class SetupTest {
             TWO + "distinct 0 1 0 ^0;", TWO + "distinct 0 1 4 ^2296;", TWO + "distinct 0 1 ^5 0;",
             "scheme;floor ^10000;", "scheme;floor 9999+^10000;", "scheme;floor (1*^99999999999999999999)", "scheme;floor 1/^10000"
         }) {
-            bad(-3, marked);
+            check.rejects(-3, marked);
         }
     }
 
     private static void tooMany() {
         String tenRoles = "scheme;" + "role 0 0 0;".repeat(10);
         String twelveRules = TWO + "text 0 1 1;".repeat(6) + "distinct 0 1 0 1;".repeat(6);
-        good(tenRoles, 0);
-        good(twelveRules, 12);
-        good(tenRoles + "text 9 8 1;".repeat(12), 12);
-        good(twelveRules + "role 0 0 0;floor 1;", 12);
-        bad(-4, tenRoles + "^role 0 0 0;");
-        bad(-4, tenRoles + "text 9 8 1;  ^role 999 #");
-        bad(-4, tenRoles + "^role");
-        bad(-2, tenRoles + "^roles");
-        bad(-3, tenRoles + "text ^10 0 1;");
-        bad(-4, twelveRules + "^text 0 1 1;");
-        bad(-4, twelveRules + "^distinct 0 0 9 0;");
-        bad(-4, twelveRules + "floor 1; ^text");
-        bad(-2, twelveRules + "floor 1;^floor 1;");
+        check.accepts(tenRoles, 0);
+        check.accepts(twelveRules, 12);
+        check.accepts(tenRoles + "text 9 8 1;".repeat(12), 12);
+        check.accepts(twelveRules + "role 0 0 0;floor 1;", 12);
+        check.rejects(-4, tenRoles + "^role 0 0 0;");
+        check.rejects(-4, tenRoles + "text 9 8 1;  ^role 999 #");
+        check.rejects(-4, tenRoles + "^role");
+        check.rejects(-2, tenRoles + "^roles");
+        check.rejects(-3, tenRoles + "text ^10 0 1;");
+        check.rejects(-4, twelveRules + "^text 0 1 1;");
+        check.rejects(-4, twelveRules + "^distinct 0 0 9 0;");
+        check.rejects(-4, twelveRules + "floor 1; ^text");
+        check.rejects(-2, twelveRules + "floor 1;^floor 1;");
     }
 
     private static void tooDeep() {
-        good("scheme;floor ((((1))))+((((2))));", 0);
-        good("scheme;floor (1)+(2)+(3)+(4)+(5)+(6);", 0);
-        good("scheme;floor (((1+(size)*(scheme))));", 0);
-        bad(-5, "scheme;floor ((((^(1)))));");
-        bad(-5, "scheme;floor ((((^(");
-        bad(-5, "scheme;floor ((((1+2*^(3)))));");
-        bad(-5, "scheme;floor (((1)+((2)-3*(^(4)))));");
-        bad(-2, "scheme;floor ((((1^(2)))));");
-        bad(-2, "scheme;floor ((((1))))^);");
+        check.accepts("scheme;floor ((((1))))+((((2))));", 0);
+        check.accepts("scheme;floor (1)+(2)+(3)+(4)+(5)+(6);", 0);
+        check.accepts("scheme;floor (((1+(size)*(scheme))));", 0);
+        check.rejects(-5, "scheme;floor ((((^(1)))));");
+        check.rejects(-5, "scheme;floor ((((^(");
+        check.rejects(-5, "scheme;floor ((((1+2*^(3)))));");
+        check.rejects(-5, "scheme;floor (((1)+((2)-3*(^(4)))));");
+        check.rejects(-2, "scheme;floor ((((1^(2)))));");
+        check.rejects(-2, "scheme;floor ((((1))))^);");
     }
 }
