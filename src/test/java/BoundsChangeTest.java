@@ -23,6 +23,7 @@ public final class BoundsChangeTest {
         repairsAtMost();
         repairsAsLongAsThereIsOne();
         repairsTheFirst();
+        repairsTheLast();
         repairsAgainFromTheFirst();
         repairsNoFixedRoles();
         repairsByBestShifts();
@@ -102,6 +103,11 @@ public final class BoundsChangeTest {
                 check.same("its colour", 0x050505, x.colour(0, 0));
             }
         }
+        ColorScheme often = Check.loaded("scheme;role 5 5 5;");
+        boolean[] fixed = {true, true, false, false, true, false};
+        for (int i = 0; i < fixed.length; i++) {
+            check.same("whether it was, call " + i, i > 0 && fixed[i - 1], often.setFixed(0, fixed[i]));
+        }
         ColorScheme x = Check.loaded(TWO);
         int[] roles = {LEAST, -1, 0, 1, 2, 9, 10, MOST};
         Object[] due = {NO_INDEX, NO_INDEX, false, true, NO_INDEX, NO_INDEX, NO_INDEX, NO_INDEX};
@@ -178,7 +184,8 @@ public final class BoundsChangeTest {
         for (int more = 4; more <= 5; more++) {
             StringBuilder text = new StringBuilder("scheme;");
             for (int pair = 0; pair < more; pair++) {
-                text.append("role 50 50 50;role 50 50 50;distinct ").append(2 * pair).append(' ').append(2 * pair + 1).append(" 0 9;");
+                text.append("role 50 50 50;role 50 50 50;distinct ").append(2 * pair).append(' ');
+                text.append(2 * pair + 1).append(" 0 9;");
             }
             ColorScheme x = Check.loaded(text.toString());
             check.same("violations in both schemes", 2 * more, x.violations());
@@ -220,6 +227,20 @@ public final class BoundsChangeTest {
         check.same("the next rule in both", 2, x.repair(6));
         check.same("its colour", 0x070707, x.colour(2, 0));
         check.same("its dark colour", 0x070707, x.colour(2, 1));
+    }
+
+    private static void repairsTheLast() {
+        check.says("the first violation for which there is one: the last of all violations");
+        String kept = "scheme;role 5 5 5 dark 5 5 5;role 6 6 6 dark 6 6 6;" + "distinct 0 1 0 9;".repeat(11);
+        ColorScheme x = Check.loaded(kept + "distinct 1 0 0 18;");
+        check.same("two violations", 2, x.violations());
+        check.same("two shifts", 2, x.repair(6));
+        check.same("light", 0x070707, x.colour(1, 0));
+        check.same("dark", 0x070707, x.colour(1, 1));
+        x.setColour(1, 1, 0x060606);
+        check.same("the last in dark", 110 + 1, x.violation(0));
+        check.same("one shift", 1, x.repair(6));
+        check.same("dark again", 0x070707, x.colour(1, 1));
     }
 
     private static void repairsAgainFromTheFirst() {
@@ -271,7 +292,8 @@ public final class BoundsChangeTest {
         check.same("plus 1 of the first role", 0x656565, x.colour(3, 0));
         check.same("the second stays", 0x646464, x.colour(2, 0));
         check.same("plus 1 in dark", 0x9c9c9c, x.colour(3, 1));
-        ColorScheme limited = Check.loaded("scheme;role 250 0 0 dark 0 0 0;role 250 0 0 dark 255 0 0 fixed;distinct 0 1 0 100;");
+        ColorScheme limited = Check.loaded("scheme;role 250 0 0 dark 0 0 0;role 250 0 0 dark 255 0 0 fixed;"
+            + "distinct 0 1 0 100;");
         check.same("a channel is limited", 1, limited.repair(6));
         check.same("the others are not", 0xff0f0f, limited.colour(0, 0));
     }
@@ -293,7 +315,8 @@ public final class BoundsChangeTest {
         for (int roles = 0; roles <= 10; roles++) {
             StringBuilder text = new StringBuilder("scheme;");
             for (int role = 0; role < roles; role++) {
-                text.append("role 1 1 ").append(role).append(" dark 2 2 ").append(role).append(role % 2 == 0 ? ";" : " fixed;");
+                text.append("role 1 1 ").append(role).append(" dark 2 2 ").append(role);
+                text.append(role % 2 == 0 ? ";" : " fixed;");
             }
             ColorScheme x = Check.loaded(text.toString());
             check.same("no violations", 0, x.swapSchemes());
@@ -505,7 +528,8 @@ public final class BoundsChangeTest {
 
     private static void undoesWholeLoads() {
         check.says("Undoes the latest change: a load");
-        ColorScheme x = Check.loaded("scheme;role 1 1 1 fixed;role 2 2 2;role 3 3 3;text 2 1 3;distinct 0 1 2 9;floor 200*size+scheme;");
+        ColorScheme x = Check.loaded("scheme;role 1 1 1 fixed;role 2 2 2;role 3 3 3;text 2 1 3;"
+            + "distinct 0 1 2 9;floor 200*size+scheme;");
         String first = State.shown(x);
         Check.load(x, "scheme;" + "role 9 9 9 fixed;".repeat(10) + "distinct 9 8 1 77;".repeat(12) + "floor 2100;");
         String second = State.shown(x);
@@ -551,7 +575,8 @@ public final class BoundsChangeTest {
         check.same("roles", roles, Check.loaded(text).checksum());
         long rules = (roles * 31 + 6) * 31 + 2;
         check.same("a rule", rules, Check.loaded(text + "distinct 0 1 0 1;").checksum());
-        check.same("two rules", (rules * 31 + 100) * 31 + 100, Check.loaded(text + "distinct 0 1 0 1;text 0 1 1;").checksum());
+        ColorScheme two = Check.loaded(text + "distinct 0 1 0 1;text 0 1 1;");
+        check.same("two rules", (rules * 31 + 100) * 31 + 100, two.checksum());
     }
 
     private static void wrapsAround() {

@@ -18,6 +18,7 @@ public final class BoundsColourTest {
         limitsSeenGreen();
         limitsSeenBlue();
         seesWithTheOriginalChannels();
+        seesWithEachFactor();
         truncatesSeenChannels();
         weighsDifferences();
         boundsDifferences();
@@ -180,6 +181,20 @@ public final class BoundsColourTest {
         seen(0, 0, 255, 4, 29, 29, 29);
     }
 
+    /** Colours with which a factor that is greater or smaller by 1 gives another channel. */
+    private static void seesWithEachFactor() {
+        check.says("There are five kinds of sight: each factor");
+        seen(162, 245, 140, 0, 162, 245, 140);
+        seen(162, 245, 140, 1, 253, 225, 134);
+        seen(210, 190, 136, 1, 204, 186, 133);
+        seen(204, 213, 221, 2, 207, 210, 220);
+        seen(239, 202, 217, 2, 212, 213, 216);
+        seen(133, 110, 149, 3, 131, 113, 121);
+        seen(157, 192, 147, 3, 156, 188, 178);
+        seen(186, 148, 180, 4, 163, 163, 163);
+        seen(40, 108, 251, 4, 103, 103, 103);
+    }
+
     private static void truncatesSeenChannels() {
         check.says("Division truncates toward zero: the channels that are seen");
         seen(10, 18, 95, 1, 0, 24, 99);
@@ -305,8 +320,8 @@ public final class BoundsColourTest {
             check.answers("scheme " + scheme, NO_INDEX, () -> x.seen(0, scheme, 0));
         }
         int[] sights = {LEAST, -1, 0, 1, 2, 3, 4, 5, 6, MOST};
-        Object[] due = {NOT_ALLOWED, NOT_ALLOWED, 0xff0000, 0x261d00, 0x5d4700, 0xff0001, 0x4c4c4c, NOT_ALLOWED, NOT_ALLOWED,
-            NOT_ALLOWED};
+        Object[] due = {NOT_ALLOWED, NOT_ALLOWED, 0xff0000, 0x261d00, 0x5d4700, 0xff0001, 0x4c4c4c, NOT_ALLOWED,
+            NOT_ALLOWED, NOT_ALLOWED};
         for (int i = 0; i < sights.length; i++) {
             int sight = sights[i];
             check.answers("sight " + sight, due[i], () -> x.seen(0, 0, sight));
@@ -336,8 +351,8 @@ public final class BoundsColourTest {
 
     private static void takesTheFirstOfSeveral() {
         check.says("the smallest difference from this colour, of several the one with the smallest index");
-        ColorScheme x = Check.loaded("scheme;role 9 9 9;role 20 10 10;role 10 10 10;role 10 10 10;role 12 10 10;role 10 10 13;"
-            + "role 10 10 10;");
+        ColorScheme x = Check.loaded("scheme;role 9 9 9;role 20 10 10;role 10 10 10;role 10 10 10;role 12 10 10;"
+            + "role 10 10 13;role 10 10 10;");
         check.same("the colour itself, three times", 2, x.nearest(0x0a0a0a, 0));
         check.same("as far from two", 2, x.nearest(0x0b0a0a, 0));
         check.same("a step to the last", 4, x.nearest(0x0c0a0a, 0));
@@ -372,8 +387,8 @@ public final class BoundsColourTest {
         check.says("nearest: if colour is out of range");
         ColorScheme x = Check.loaded("scheme;role 255 255 255;role 0 0 0;");
         int[] colours = {LEAST, -16777216, -2, -1, 0, 1, 16777214, 16777215, 16777216, 16777217, 33554431, MOST};
-        Object[] due = {NOT_ALLOWED, NOT_ALLOWED, NOT_ALLOWED, NOT_ALLOWED, 1, 1, 0, 0, NOT_ALLOWED, NOT_ALLOWED, NOT_ALLOWED,
-            NOT_ALLOWED};
+        Object[] due = {NOT_ALLOWED, NOT_ALLOWED, NOT_ALLOWED, NOT_ALLOWED, 1, 1, 0, 0, NOT_ALLOWED, NOT_ALLOWED,
+            NOT_ALLOWED, NOT_ALLOWED};
         for (int i = 0; i < colours.length; i++) {
             int colour = colours[i];
             check.answers("colour " + colour, due[i], () -> x.nearest(colour, 0));

@@ -34,6 +34,7 @@ public final class BoundsRuleTest {
     private static void keeping() {
         valuesTexts();
         valuesDistincts();
+        valuesTwelveRules();
         keepsAtTheNeed();
         keepsInEachScheme();
         countsViolations();
@@ -44,6 +45,7 @@ public final class BoundsRuleTest {
     }
 
     private static void shifts() {
+        shiftsForEachRule();
         limitsShiftedChannels();
         mendsWithRolesOfTheRule();
         mendsWithRolesNotFixed();
@@ -95,7 +97,8 @@ public final class BoundsRuleTest {
     private static void keepsDistinctNeeds() {
         check.says("A distinct rule has a sight and a need (1 to 2295): no floor limits it.");
         for (String floor : new String[] {"", "floor 100;", "floor 2100;", "floor 0;"}) {
-            ColorScheme x = Check.loaded(TWO + "distinct 0 1 0 1;distinct 0 1 0 99;" + floor + "distinct 0 1 0 2101;distinct 0 1 0 2295;");
+            ColorScheme x = Check.loaded(TWO + "distinct 0 1 0 1;distinct 0 1 0 99;" + floor
+                + "distinct 0 1 0 2101;distinct 0 1 0 2295;");
             int[] due = {1, 99, 2101, 2295};
             for (int rule = 0; rule < due.length; rule++) {
                 check.same("light", due[rule], x.need(rule, 0));
@@ -254,6 +257,32 @@ public final class BoundsRuleTest {
         }
     }
 
+    /** Ten greys of which no two differ as much as two others, and twelve rules, the last two a text and a sight. */
+    private static void valuesTwelveRules() {
+        check.says("Each of them has two different roles, the first and the second one: twelve rules");
+        StringBuilder text = new StringBuilder("scheme;");
+        int[] greys = {0, 1, 3, 7, 15, 31, 63, 127, 191, 255};
+        for (int grey : greys) {
+            text.append("role ").append(grey).append(' ').append(grey).append(' ').append(grey).append(';');
+        }
+        int[] firsts = {9, 8, 7, 6, 5, 4, 3, 2, 1, 0, 9, 7};
+        int[] seconds = {0, 2, 4, 1, 6, 3, 7, 8, 5, 9, 6, 3};
+        for (int rule = 0; rule < 12; rule++) {
+            text.append(rule == 10 ? "text " : "distinct ").append(firsts[rule]).append(' ').append(seconds[rule]);
+            text.append(rule == 10 ? " 9;" : " " + (rule == 11 ? 4 : 0) + " " + (rule + 1) + ";");
+        }
+        ColorScheme x = Check.loaded(text + "floor 700+scheme;");
+        Check.load(x, "scheme;");
+        x.undo();
+        for (int rule = 0; rule < 12; rule++) {
+            int distance = 9 * Math.abs(greys[firsts[rule]] - greys[seconds[rule]]);
+            check.same("value " + rule, rule == 10 ? 945 : distance, x.value(rule, 0));
+            check.same("value in dark " + rule, rule == 10 ? 1233 : distance, x.value(rule, 1));
+            check.same("need " + rule, rule == 10 ? 700 : rule + 1, x.need(rule, 0));
+            check.same("need in dark " + rule, rule == 10 ? 701 : rule + 1, x.need(rule, 1));
+        }
+    }
+
     private static void keepsAtTheNeed() {
         check.says("A rule is kept in a scheme if its value is at least its need; otherwise it is violated there.");
         for (int need = 8; need <= 10; need++) {
@@ -266,7 +295,8 @@ public final class BoundsRuleTest {
             check.same("as repair", need <= 9 ? 0 : 2, x.repair(6));
         }
         for (int need = 111; need <= 113; need++) {
-            ColorScheme x = Check.loaded("scheme;role 0 0 0 dark 0 0 0;role 20 20 20 dark 0 0 0;text 1 0 1;floor " + need + ";");
+            ColorScheme x = Check.loaded("scheme;role 0 0 0 dark 0 0 0;role 20 20 20 dark 0 0 0;text 1 0 1;"
+                + "floor " + need + ";");
             check.same("a contrast of 112", 112, x.value(0, 0));
             check.same("and the need " + need, need <= 112 ? 1 : 2, x.violations());
             check.same("as margin", 112 - need, x.smallestMargin(0));
@@ -324,7 +354,8 @@ public final class BoundsRuleTest {
             int index = indexes[i];
             check.answers("violation " + index, due[i], () -> x.violation(index));
             check.answers("violation " + index + " without roles", NONE, () -> new ColorScheme().violation(index));
-            check.answers("violation " + index + " of none", NONE, () -> Check.loaded(TWO + "text 0 1 1;").violation(index));
+            ColorScheme kept = Check.loaded(TWO + "text 0 1 1;");
+            check.answers("violation " + index + " of none", NONE, () -> kept.violation(index));
         }
         ColorScheme full = Check.loaded("scheme;role 5 5 5;role 5 5 5;" + "distinct 0 1 0 9;".repeat(12));
         check.answers("the last of 24", 111, () -> full.violation(23));
@@ -359,14 +390,17 @@ public final class BoundsRuleTest {
             int scheme = schemes[i];
             check.answers("without roles, scheme " + scheme, due[i], () -> new ColorScheme().smallestMargin(scheme));
             check.answers("without rules, scheme " + scheme, due[i], () -> Check.loaded(TWO).smallestMargin(scheme));
-            check.answers("with a rule, scheme " + scheme, ruled[i], () -> Check.loaded(TWO + "text 0 1 1;").smallestMargin(scheme));
+            ColorScheme x = Check.loaded(TWO + "text 0 1 1;");
+            check.answers("with a rule, scheme " + scheme, ruled[i], () -> x.smallestMargin(scheme));
         }
     }
 
     private static void limitsShiftedChannels() {
-        check.says("adds d to all three channels of its colour in this scheme; each channel is limited to the range 0 to 255 then");
+        check.says("adds d to all three channels of its colour in this scheme;"
+            + " each channel is limited to the range 0 to 255 then");
         int[] amounts = {0, 1, 5, 6, 250, 254, 255, -1, -5, -6, -250, -254, -255};
-        int[] due = {0x05fa80, 0x06fb81, 0x0aff85, 0x0bff86, 0xffffff, 0xffffff, 0xffffff, 0x04f97f, 0x00f57b, 0x00f47a, 0, 0, 0};
+        int[] due = {0x05fa80, 0x06fb81, 0x0aff85, 0x0bff86, 0xffffff, 0xffffff, 0xffffff,
+            0x04f97f, 0x00f57b, 0x00f47a, 0, 0, 0};
         for (int i = 0; i < amounts.length; i++) {
             ColorScheme x = Check.loaded("scheme;role 9 9 9;role 5 250 128 dark 1 2 3;");
             check.same("shift by " + amounts[i], due[i], x.shift(1, 0, amounts[i]));
@@ -445,7 +479,8 @@ public final class BoundsRuleTest {
         best("as many for both", start + "distinct 0 1 0 9;distinct 0 2 0 1395;distinct 0 3 0 900;", 9999, -1);
         best("more for plus", start + "distinct 0 1 0 9;distinct 0 2 0 1395;distinct 2 0 0 1395;", -1, 0);
         best("two mended, one broken", start + "distinct 0 1 0 9;distinct 0 2 0 1395;distinct 1 0 0 9;", 1, 0);
-        best("two mended, two broken", start + "distinct 0 1 0 9;distinct 0 2 0 1395;distinct 1 0 0 9;distinct 0 2 0 1390;", -1, 0);
+        best("two mended, two broken", start + "distinct 0 1 0 9;distinct 0 2 0 1395;distinct 1 0 0 9;"
+            + "distinct 0 2 0 1390;", -1, 0);
         best("broken ones that stay broken", start + "distinct 0 1 0 9;distinct 2 3 0 2295;distinct 1 3 0 901;", 1, 0);
         best("broken before, and broken still", start + "distinct 0 1 0 9;distinct 0 2 0 2000;", 1, 0);
     }
@@ -500,7 +535,31 @@ public final class BoundsRuleTest {
         best("-255, for 1 more", greys(255, 255) + "distinct 0 1 0 2287;", -255, 0);
         best("-255", greys(255, 255) + "distinct 0 1 0 2295;", -255, 0);
         best("255 of the second role", "scheme;" + fixedGreys(0) + greys(0).substring(7) + "distinct 0 1 0 2295;", 255, 1);
-        best("-255 of the second role", "scheme;" + fixedGreys(255) + greys(255).substring(7) + "distinct 0 1 0 2295;", -255, 1);
+        best("-255 of the second role", "scheme;" + fixedGreys(255) + greys(255).substring(7) + "distinct 0 1 0 2295;",
+            -255, 1);
+    }
+
+    private static void shiftsForEachRule() {
+        check.says("Finds the best shift for a violation. Returns the role of the best shift.");
+        // Rule n has the roles 2n and 2n + 1, of the same grey; of rules 1 and 3 the first role is fixed.
+        StringBuilder text = new StringBuilder("scheme;");
+        for (int rule = 0; rule < 5; rule++) {
+            String grey = "role " + 50 * rule + " " + 50 * rule + " " + 50 * rule;
+            text.append(grey).append(rule % 2 == 1 ? " fixed;" : ";").append(grey).append(";");
+        }
+        for (int rule = 0; rule < 5; rule++) {
+            text.append("distinct ").append(2 * rule).append(' ').append(2 * rule + 1);
+            text.append(" 0 ").append(450 + 9 * rule).append(';');
+        }
+        ColorScheme x = Check.loaded(text.toString());
+        int[] light = {50, 51, 52, 53, 54};
+        int[] dark = {-50, -51, 52, 53, 54};
+        for (int rule = 0; rule < 5; rule++) {
+            check.same("amount in light, rule " + rule, light[rule], x.bestShift(rule, 0));
+            check.same("amount in dark, rule " + rule, dark[rule], x.bestShift(rule, 1));
+            check.same("role in light, rule " + rule, 2 * rule + rule % 2, x.shiftRole(rule, 0));
+            check.same("role in dark, rule " + rule, 2 * rule + rule % 2, x.shiftRole(rule, 1));
+        }
     }
 
     private static void findsNoShift() {

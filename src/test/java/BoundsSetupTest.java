@@ -117,7 +117,8 @@ public final class BoundsSetupTest {
     }
 
     private static void appendsUpToTheEnd() {
-        check.says("Returns the new length of the buffer; -1 if it would exceed 700 bytes, and the buffer is unchanged then.");
+        check.says("Returns the new length of the buffer; -1 if it would exceed 700 bytes,"
+            + " and the buffer is unchanged then.");
         ColorScheme x = new ColorScheme();
         String text = "scheme;role 1 2 3;  " + " ".repeat(660) + "   role 253 254 255;";
         Check.fill(x, text.substring(0, 660));
@@ -163,7 +164,8 @@ public final class BoundsSetupTest {
 
     private static void replacesAllData() {
         check.says("replaces all data by it");
-        ColorScheme x = Check.loaded("scheme;role 9 9 9 dark 8 8 8 fixed;role 7 7 7;role 6 6 6;text 0 1 9;distinct 2 1 4 77;floor 1000;");
+        ColorScheme x = Check.loaded("scheme;role 9 9 9 dark 8 8 8 fixed;role 7 7 7;role 6 6 6;text 0 1 9;"
+            + "distinct 2 1 4 77;floor 1000;");
         check.same("another text", 1, Check.load(x, "scheme;role 1 1 1;role 2 2 2 fixed;text 1 0 3;"));
         ColorScheme fresh = Check.loaded("scheme;role 1 1 1;role 2 2 2 fixed;text 1 0 3;");
         check.same("as if it were the first", State.shown(fresh), State.shown(x));
@@ -192,8 +194,9 @@ public final class BoundsSetupTest {
 
     private static void leavesAllElseAfterAnError() {
         check.says("An error leaves all other data unchanged.");
-        String[] texts = {"", "?", "scheme;role 1 1 1;role 2 2 2;text 0 1 1;floor 900;!", "scheme;role 5 5 5;role 6 6 6 256",
-            "scheme;floor 1;floor 2;", "scheme;role 4 4 4 fixed;floor (((((1", TEN_ROLES + "role 1 1 1;", TWELVE_RULES + "text"};
+        String[] texts = {"", "?", "scheme;role 1 1 1;role 2 2 2;text 0 1 1;floor 900;!", "scheme;role 5 5 5;role 6 6 256",
+            "scheme;floor 1;floor 2;", "scheme;role 4 4 4 fixed;floor (((((1", TEN_ROLES + "role 1 1 1;",
+            TWELVE_RULES + "text"};
         for (String text : texts) {
             ColorScheme with = changed();
             ColorScheme without = changed();
@@ -342,8 +345,8 @@ public final class BoundsSetupTest {
         check.rejects(SYNTAX, "scheme;role 0 0 0 ^role 0 0 0;");
         check.rejects(SYNTAX, ONE + "^;");
         check.rejects(SYNTAX, ONE + "^scheme;");
-        for (String word : new String[] {"scheme", "dark", "fixed", "size", "(", "1", "texts", "tex", "rol", "roles", "distinc",
-            "distincts", "floo", "floors"}) {
+        for (String word : new String[] {"scheme", "dark", "fixed", "size", "(", "1", "texts", "tex", "rol", "roles",
+            "distinc", "distincts", "floo", "floors"}) {
             check.rejects(SYNTAX, TWO + "^" + word + " 0 1 1 1;");
         }
     }
@@ -405,7 +408,8 @@ public final class BoundsSetupTest {
         check.rejects(SYNTAX, "scheme;floor (1)^);");
         check.rejects(SYNTAX, "scheme;floor (1)^(1);");
         check.rejects(SYNTAX, "scheme;floor size^(1);");
-        for (String word : new String[] {"role", "dark", "fixed", "text", "distinct", "floor", "sizes", "siz", "schemes", "schem"}) {
+        for (String word : new String[] {"role", "dark", "fixed", "text", "distinct", "floor", "sizes", "siz",
+            "schemes", "schem"}) {
             check.rejects(SYNTAX, "scheme;floor 1+^" + word + ";");
         }
     }
@@ -420,7 +424,8 @@ public final class BoundsSetupTest {
         check.rejects(RANGE, "scheme;role 0 0 ^1" + "0".repeat(670) + ";");
         // Numbers that come back into the range if an int, a long or a byte holds them.
         for (String number : new String[] {"256", "65536", "2147483648", "4294967296", "4294967297", "8589934592",
-            "9223372036854775808", "18446744073709551616", "18446744073709551617", "340282366920938463463374607431768211456"}) {
+            "9223372036854775808", "18446744073709551616", "18446744073709551617",
+            "340282366920938463463374607431768211456"}) {
             check.rejects(RANGE, "scheme;role ^" + number + " 0 0;");
             check.rejects(RANGE, TWO + "text 0 1 ^" + number + ";");
             check.rejects(RANGE, TWO + "text 0 ^" + number + " 1;");
@@ -444,7 +449,17 @@ public final class BoundsSetupTest {
         check.rejects(SYNTAX, "scheme;role 0 0 0 fixed^\u00e1;");
         check.rejects(SYNTAX, "^schemea;");
         check.rejects(SYNTAX, "^schemez;");
-        // A letter of each word, with its high bit.
+        // A word differs from another one in its first letter, too.
+        check.rejects(SYNTAX, "^xcheme;");
+        check.rejects(SYNTAX, "scheme;^xole 0 0 0;");
+        check.rejects(SYNTAX, "scheme;role 0 0 0 ^bark 0 0 0;");
+        check.rejects(SYNTAX, "scheme;role 0 0 0 ^mixed;");
+        check.rejects(SYNTAX, TWO + "^next 0 1 1;");
+        check.rejects(SYNTAX, TWO + "^mistinct 0 1 0 5;");
+        check.rejects(SYNTAX, "scheme;^xloor 1;");
+        check.rejects(SYNTAX, "scheme;floor ^xize;");
+        check.rejects(SYNTAX, "scheme;floor ^xcheme;");
+        // Letters with their high bit.
         check.rejects(SYNTAX, "^\u00f3cheme;");
         check.rejects(SYNTAX, "^schem\u00e5;");
     }
@@ -488,7 +503,7 @@ public final class BoundsSetupTest {
         for (int wide = 0; wide <= tokens.length; wide++) {
             StringBuilder text = new StringBuilder();
             for (int i = 0; i < tokens.length; i++) {
-                boolean both = i > 0 && Character.isLetterOrDigit(tokens[i].charAt(0)) && Character.isLetterOrDigit(tokens[i - 1].charAt(0));
+                boolean both = i > 0 && isRun(tokens[i]) && isRun(tokens[i - 1]);
                 text.append(i == wide ? "     " : both ? " " : "").append(tokens[i]);
             }
             check.accepts(text.append(wide == tokens.length ? "     " : "").toString(), 2);
@@ -498,6 +513,10 @@ public final class BoundsSetupTest {
         check.rejects(SYNTAX, "     ^");
         check.rejects(SYNTAX, "scheme;role 2 5 ^;");
         check.rejects(SYNTAX, "scheme;role 2 5 5 ^5;");
+    }
+
+    private static boolean isRun(String token) {
+        return Character.isLetterOrDigit(token.charAt(0));
     }
 
     private static void readsNoSpaces() {
@@ -542,6 +561,11 @@ public final class BoundsSetupTest {
         check.same("the last one", 0xffffff, x.colour(9, 1));
         check.refuses("no eleventh", IndexOutOfBoundsException.class, () -> x.colour(10, 1));
         check.rejects(MANY, TEN_ROLES + "text 9 8 1;".repeat(12) + "^role 0 0 0;");
+        for (int rules = 0; rules <= 12; rules++) {
+            ColorScheme y = Check.loaded(TWO + "text 0 1 1;".repeat(rules) + "role 0 0 0;".repeat(8));
+            check.same("ten, eight of them after the rules", 10, y.roleCount());
+            check.same("the rules", rules, y.ruleCount());
+        }
     }
 
     private static void takesTwelveRules() {

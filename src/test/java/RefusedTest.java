@@ -117,7 +117,8 @@ public final class RefusedTest {
             }
             for (int scheme : NO_SCHEME) {
                 refused("seen in scheme " + scheme + " with " + sight, NO_INDEX, x -> x.seen(0, scheme, sight));
-                refused("difference in scheme " + scheme + " with " + sight, NO_INDEX, x -> x.difference(0, 1, scheme, sight));
+                refused("difference in scheme " + scheme + " with " + sight, NO_INDEX,
+                    x -> x.difference(0, 1, scheme, sight));
             }
         }
         for (int role : NO_ROLE) {
@@ -272,7 +273,8 @@ public final class RefusedTest {
     }
 
     private static void questions() {
-        check.says("The changing methods are load, setColour, setFixed, shift, repair and swapSchemes: the others change nothing");
+        check.says("The changing methods are load, setColour, setFixed, shift, repair and swapSchemes:"
+            + " the others change nothing");
         ask(x -> x.errorOffset());
         ask(x -> x.roleCount());
         ask(x -> x.ruleCount());

@@ -1,4 +1,4 @@
-/** What an object shows, as texts to compare. Objects for it are small: a text takes some 20 calls. */
+/** What an object shows, as texts to compare. Three roles and two rules take some 40 calls of the 512 that it has. */
 final class State {
     private static final int SPACES = 0x20202020;
 
@@ -8,21 +8,32 @@ final class State {
     /** All that can be asked for without a change. */
     static String shown(ColorScheme x) {
         StringBuilder text = new StringBuilder();
-        add(text, "\nroles", x.roleCount());
-        add(text, "rules", x.ruleCount());
+        int roles = x.roleCount();
+        int rules = x.ruleCount();
+        int violations = x.violations();
+        add(text, "\nroles", roles);
+        add(text, "rules", rules);
         add(text, "error", x.errorOffset());
-        add(text, "violations", x.violations());
         add(text, "checksum", x.checksum());
-        for (int role = 0; role < x.roleCount(); role++) {
+        add(text, "margins", x.smallestMargin(0));
+        add(text, "and", x.smallestMargin(1));
+        for (int i = 0; i < violations; i++) {
+            add(text, "violation", x.violation(i));
+        }
+        for (int role = 0; role < roles; role++) {
             add(text, "colours", x.colour(role, 0));
             add(text, "and", x.colour(role, 1));
             add(text, "fixed", x.isFixed(role) ? 1 : 0);
         }
-        for (int rule = 0; rule < x.ruleCount(); rule++) {
+        for (int rule = 0; rule < rules; rule++) {
             add(text, "needs", x.need(rule, 0));
             add(text, "and", x.need(rule, 1));
             add(text, "values", x.value(rule, 0));
             add(text, "and", x.value(rule, 1));
+            add(text, "shifts", x.bestShift(rule, 0));
+            add(text, "of", x.shiftRole(rule, 0));
+            add(text, "and", x.bestShift(rule, 1));
+            add(text, "of", x.shiftRole(rule, 1));
         }
         return text.toString();
     }
