@@ -3,8 +3,9 @@ import java.util.function.Supplier;
 
 /** All promises at once: long runs of calls, the same each time, on the class and on the model. */
 public final class ModelTest {
-    private static final int RUNS = 400;
-    private static final int CALLS = 500;
+    private static final int RUNS = 8000;
+    /** The document promises nothing about an object after so many calls. */
+    private static final int CALLS = 512;
     private static final String[] PIECES = {
         "scheme", ";", "role", "dark", "fixed", "text", "distinct", "floor", "size", "(", ")", "+", "-", "*", "/",
         "0", "1", "9", "255", "256", "9999", "10000", "00000000000000000000007", "99999999999999999999", " ", "#", "A",
@@ -15,6 +16,7 @@ public final class ModelTest {
     private static int wrong = 0;
     private static int compared = 0;
     private static int run;
+    private static int calls;
     private static ColorScheme x;
     private static Model model;
 
@@ -23,7 +25,8 @@ public final class ModelTest {
             seed = 977L * run;
             x = new ColorScheme();
             model = new Model();
-            for (int call = 0; call < CALLS && wrong == 0; call++) {
+            calls = 0;
+            while (calls < CALLS && wrong == 0) {
                 callOne();
             }
         }
@@ -44,12 +47,23 @@ public final class ModelTest {
     }
 
     private static void compare(String call, Supplier<Object> due, Supplier<Object> got) {
+        if (calls == CALLS) {
+            return;
+        }
+        calls++;
         Object expected = answer(due);
         Object answered = answer(got);
         compared++;
         if (!expected.equals(answered)) {
             wrong++;
             System.out.println("run " + run + ": " + call + " answered " + answered + ", the model's is " + expected);
+        }
+    }
+
+    /** Not all questions each time, so that an object's calls are enough for many changes. */
+    private static void some(String call, Supplier<Object> due, Supplier<Object> got) {
+        if (chance(35)) {
+            compare(call, due, got);
         }
     }
 
@@ -94,7 +108,7 @@ public final class ModelTest {
             default:
                 ask();
         }
-        if (chance(30)) {
+        if (chance(3)) {
             compareAll();
         }
     }
@@ -234,14 +248,14 @@ public final class ModelTest {
         int colour = oneColour();
         int index = pick(8) - 1;
         String ruleAndScheme = "(" + rule + ", " + scheme + ")";
-        compare("contrast", () -> model.contrast(a, b, scheme), () -> x.contrast(a, b, scheme));
-        compare("seen", () -> model.seen(a, scheme, sight), () -> x.seen(a, scheme, sight));
-        compare("difference", () -> model.difference(a, b, scheme, sight), () -> x.difference(a, b, scheme, sight));
-        compare("nearest", () -> model.nearest(colour, scheme), () -> x.nearest(colour, scheme));
-        compare("need" + ruleAndScheme, () -> model.need(rule, scheme), () -> x.need(rule, scheme));
-        compare("value" + ruleAndScheme, () -> model.value(rule, scheme), () -> x.value(rule, scheme));
-        compare("violation(" + index + ")", () -> model.violation(index), () -> x.violation(index));
-        compare("smallestMargin", () -> model.smallestMargin(scheme), () -> x.smallestMargin(scheme));
+        some("contrast", () -> model.contrast(a, b, scheme), () -> x.contrast(a, b, scheme));
+        some("seen", () -> model.seen(a, scheme, sight), () -> x.seen(a, scheme, sight));
+        some("difference", () -> model.difference(a, b, scheme, sight), () -> x.difference(a, b, scheme, sight));
+        some("nearest", () -> model.nearest(colour, scheme), () -> x.nearest(colour, scheme));
+        some("need" + ruleAndScheme, () -> model.need(rule, scheme), () -> x.need(rule, scheme));
+        some("value" + ruleAndScheme, () -> model.value(rule, scheme), () -> x.value(rule, scheme));
+        some("violation(" + index + ")", () -> model.violation(index), () -> x.violation(index));
+        some("smallestMargin", () -> model.smallestMargin(scheme), () -> x.smallestMargin(scheme));
         if (chance(25)) {
             compare("bestShift" + ruleAndScheme, () -> model.bestShift(rule, scheme), () -> x.bestShift(rule, scheme));
             compare("shiftRole" + ruleAndScheme, () -> model.shiftRole(rule, scheme), () -> x.shiftRole(rule, scheme));
